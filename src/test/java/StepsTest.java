@@ -163,7 +163,6 @@ public final class StepsTest {
             Checks.due("the fault is told, " + how, x.fault(0), 9);
             Checks.due("and done, " + how, x.get(0), 36);
             Checks.due("and kept, " + how, x.counter(7), 1);
-            fill(x);
             PlainSteps y = new PlainSteps();
             fill(y);
             y.constant(1);
