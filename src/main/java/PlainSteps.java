@@ -57,7 +57,7 @@ public final class PlainSteps {
     private static final int FAULT_NOTHING_KEPT = 6;
     private static final int FAULT_TOLD = 8;
 
-    private static final int FAULT_LEVEL_NOW = 15;
+    private static final int LEVEL_OF_FAULTS = 15;
     private static final int MOST_RANK = 14;
     private static final int FIRST_LINE_PLACE = 64;
 
@@ -140,7 +140,8 @@ public final class PlainSteps {
         return program.addTransfer(op, a, b, to);
     }
 
-    public int instruction(int mask, int value, int how) throws IllegalArgumentException, UnsupportedOperationException {
+    public int instruction(int mask, int value, int how)
+            throws IllegalArgumentException, UnsupportedOperationException {
         if (mask < 0 || mask > WORD_MASK || value < 0 || value > WORD_MASK) {
             throw new IllegalArgumentException("mask and value have 16 bits");
         }
@@ -316,7 +317,7 @@ public final class PlainSteps {
         }
 
         int wordOf(int at) {
-            return byteOf(at) | byteOf(at + 1) << 8;
+            return cells[at] & 255 | (cells[at + 1] & 255) << 8;
         }
 
         void putByte(int at, long value) {
@@ -324,8 +325,8 @@ public final class PlainSteps {
         }
 
         void putWord(int at, long value) {
-            putByte(at, value);
-            putByte(at + 1, value >>> 8);
+            cells[at] = (byte) value;
+            cells[at + 1] = (byte) (value >>> 8);
         }
     }
 
@@ -528,7 +529,7 @@ public final class PlainSteps {
 
         private final Registers registers;
         private final Bytes bytes;
-        private final int[] kinds = new int[MOST_TRANSFERS];
+        private final int[] forms = new int[MOST_TRANSFERS];
         private final int[] targets = new int[MOST_TRANSFERS];
         private final long[] values = new long[MOST_TRANSFERS];
         private int count;
@@ -542,29 +543,29 @@ public final class PlainSteps {
             count = 0;
         }
 
-        void note(int kind, int target, long value) {
+        void note(int form, int target, long value) {
             if (count >= MOST_TRANSFERS) {
                 return;
             }
-            kinds[count] = kind;
+            forms[count] = form;
             targets[count] = target;
             values[count] = value;
             count++;
         }
 
-        /** Notes the write that would take back a write of this kind. */
-        void noteReverse(int kind, int target) {
-            if (kind == BYTE) {
+        /** Notes the write that would take back a write of this form. */
+        void noteReverse(int form, int target) {
+            if (form == BYTE) {
                 note(BYTE, target, bytes.byteOf(target));
-            } else if (kind == WORD) {
+            } else if (form == WORD) {
                 note(WORD, target, bytes.wordOf(target));
             } else {
                 note(registers.isMarked(target) ? MARKED_VALUE : VALUE, target, registers.valueOf(target));
             }
         }
 
-        void perform(int kind, int target, long value) {
-            switch (kind) {
+        void perform(int form, int target, long value) {
+            switch (form) {
                 case BYTE:
                     bytes.putByte(target, value);
                     break;
@@ -575,20 +576,20 @@ public final class PlainSteps {
                     registers.put(target, registers.valueOf(target), true);
                     break;
                 default:
-                    registers.put(target, value, kind == MARKED_VALUE);
+                    registers.put(target, value, form == MARKED_VALUE);
                     break;
             }
         }
 
         void performInOrder() {
             for (int i = 0; i < count; i++) {
-                perform(kinds[i], targets[i], values[i]);
+                perform(forms[i], targets[i], values[i]);
             }
         }
 
         void performBackwards() {
             for (int i = count - 1; i >= 0; i--) {
-                perform(kinds[i], targets[i], values[i]);
+                perform(forms[i], targets[i], values[i]);
             }
         }
     }
@@ -621,17 +622,14 @@ public final class PlainSteps {
         }
 
         int carryOut(int number, int newWord) {
-            word = newWord;
-            parallel = program.is(number, PARALLEL);
-            restoring = program.is(number, RESTORING);
-            wrotePlace = false;
-            ended = false;
-            halts = false;
-            backPlace = NONE;
-            writes.clear();
+            prepare(number, newWord);
             int countBefore = kept.count;
             int levelBefore = kept.level;
-            int kind = doTransfers(program.starts[number], program.ends[number]);
+            int kind = NO_FAULT;
+            for (int i = program.starts[number]; i < program.ends[number] && kind == NO_FAULT && !ended; i++) {
+                counts[COUNT_TRANSFERS]++;
+                kind = doTransfer(i);
+            }
             if (kind == NO_FAULT) {
                 writeWhatWaits();
             } else if (restoring) {
@@ -641,13 +639,15 @@ public final class PlainSteps {
             return kind;
         }
 
-        private int doTransfers(int start, int end) {
-            int kind = NO_FAULT;
-            for (int i = start; i < end && kind == NO_FAULT && !ended; i++) {
-                counts[COUNT_TRANSFERS]++;
-                kind = doTransfer(i);
-            }
-            return kind;
+        private void prepare(int number, int newWord) {
+            word = newWord;
+            parallel = program.is(number, PARALLEL);
+            restoring = program.is(number, RESTORING);
+            wrotePlace = false;
+            ended = false;
+            halts = false;
+            backPlace = NONE;
+            writes.clear();
         }
 
         private void writeWhatWaits() {
@@ -675,13 +675,14 @@ public final class PlainSteps {
             long b = operands.read(program.seconds[i], word);
             boolean marked = operands.isMarked(program.firsts[i])
                     || op != COPY && operands.isMarked(program.seconds[i]);
+            int form = marked ? Writes.MARKED_VALUE : Writes.VALUE;
             switch (op) {
                 case DIVIDE:
                 case REST:
-                    return divide(op, a, b, to, marked);
+                    return divide(op, a, b, to, form);
                 case LOAD_BYTE:
                 case LOAD_WORD:
-                    return load(op == LOAD_WORD, a + b, to, marked);
+                    return load(op == LOAD_WORD, a + b, to, form);
                 case STORE_BYTE:
                 case STORE_WORD:
                     return store(op == STORE_WORD, a, b);
@@ -701,27 +702,27 @@ public final class PlainSteps {
                 case BACK:
                     return goBack();
                 default:
-                    writeRegister(to, result(op, a, b), marked);
+                    write(form, to, result(op, a, b));
                     return NO_FAULT;
             }
         }
 
-        private int divide(int op, long a, long b, int to, boolean marked) {
+        private int divide(int op, long a, long b, int to, int form) {
             if (b == 0) {
                 return FAULT_DIVISOR;
             }
-            long quotient = quotient(a, b);
-            writeRegister(to, op == DIVIDE ? quotient : a - quotient * b, marked);
+            long times = quotient(a, b);
+            write(form, to, op == DIVIDE ? times : a - times * b);
             return NO_FAULT;
         }
 
-        private int load(boolean asWord, long address, int to, boolean marked) {
+        private int load(boolean asWord, long address, int to, int form) {
             if (asWord ? !bytes.hasWord(address) : !bytes.hasByte(address)) {
                 return FAULT_ADDRESS;
             }
             int at = (int) address;
             counts[COUNT_READ] += asWord ? 2 : 1;
-            writeRegister(to, asWord ? bytes.wordOf(at) : bytes.byteOf(at), marked);
+            write(form, to, asWord ? bytes.wordOf(at) : bytes.byteOf(at));
             return NO_FAULT;
         }
 
@@ -744,27 +745,23 @@ public final class PlainSteps {
                 backPlace = place;
                 wrotePlace = true;
             } else {
-                writeRegister(PLACE, place, false);
+                write(Writes.VALUE, PLACE, place);
             }
             return NO_FAULT;
         }
 
-        private void writeRegister(int to, long value, boolean marked) {
-            if (to == PLACE) {
+        private void write(int form, int target, long value) {
+            if (target == PLACE && (form == Writes.VALUE || form == Writes.MARKED_VALUE)) {
                 wrotePlace = true;
             }
-            write(marked ? Writes.MARKED_VALUE : Writes.VALUE, to, value);
-        }
-
-        private void write(int kind, int target, long value) {
             if (parallel) {
-                writes.note(kind, target, value);
+                writes.note(form, target, value);
                 return;
             }
             if (restoring) {
-                writes.noteReverse(kind, target);
+                writes.noteReverse(form, target);
             }
-            writes.perform(kind, target, value);
+            writes.perform(form, target, value);
         }
 
         private static long result(int op, long a, long b) {
@@ -807,8 +804,8 @@ public final class PlainSteps {
             if (a >= 0) {
                 return a / b;
             }
-            long quotient = (a >>> 1) / b << 1;
-            return isBelow(a - quotient * b, b) ? quotient : quotient + 1;
+            long times = (a >>> 1) / b << 1;
+            return isBelow(a - times * b, b) ? times : times + 1;
         }
     }
 
@@ -848,25 +845,11 @@ public final class PlainSteps {
                 return;
             }
             int at = registers.placeNow();
-            if (bytes.hasWord(at)) {
-                runWord(at, bytes.wordOf(at));
-            } else {
+            if (!bytes.hasWord(at)) {
                 failWith(FAULT_FETCH, at);
-            }
-        }
-
-        private void interruptBy(int urgent) {
-            loseWaiting();
-            if (kept.isFull()) {
-                halt = HALTED_KEPT_FULL;
                 return;
             }
-            counts[COUNT_INTERRUPTS]++;
-            kept.keep(registers.placeNow(), lines.rankOf(urgent));
-            registers.put(PLACE, FIRST_LINE_PLACE + 4 * urgent, false);
-        }
-
-        private void runWord(int at, int word) {
+            int word = bytes.wordOf(at);
             int number = program.find(word);
             if (number == NONE) {
                 failWith(FAULT_NO_INSTRUCTION, at);
@@ -883,6 +866,17 @@ public final class PlainSteps {
             } else {
                 failWith(kind, at);
             }
+        }
+
+        private void interruptBy(int urgent) {
+            loseWaiting();
+            if (kept.isFull()) {
+                halt = HALTED_KEPT_FULL;
+                return;
+            }
+            counts[COUNT_INTERRUPTS]++;
+            kept.keep(registers.placeNow(), lines.rankOf(urgent));
+            registers.put(PLACE, FIRST_LINE_PLACE + 4 * urgent, false);
         }
 
         private void settlePlace(int behind, boolean delayed) {
@@ -908,7 +902,7 @@ public final class PlainSteps {
                 registers.movePlace(at);
                 return;
             }
-            kept.keep(at, FAULT_LEVEL_NOW);
+            kept.keep(at, LEVEL_OF_FAULTS);
             registers.put(PLACE, 4 * kind, false);
         }
     }

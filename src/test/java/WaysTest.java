@@ -8,6 +8,9 @@ public final class WaysTest {
         parallelBack();
         parallelBackAndWrites();
         parallelLevel();
+        parallelBackClearsTheMark();
+        oneBehindAnother();
+        restoringBytes();
         restoringAll();
         restoringWithoutFault();
         restoringNot();
@@ -146,6 +149,56 @@ public final class WaysTest {
         Checks.due("all three done", x.counter(8), 3);
         Checks.due("the place of the instruction", x.fault(1), 64);
         Checks.due("kept anew", x.counter(7), 1);
+    }
+
+    private static void parallelBackClearsTheMark() {
+        PlainSteps x = ready();
+        Checks.define(x, 1, 0, row(19, 0, 0, 0));
+        Checks.define(x, 2, 1, row(22, 0, 0, 0), row(0, 0, 0, 1));
+        interrupted(x);
+        Checks.words(x, 64, 0x100, 0x200);
+        x.step(1);
+        Checks.due("marked", x.mark(0), true);
+        x.step(1);
+        Checks.due("back without a mark", x.mark(0), false);
+        Checks.due("read with the mark of before", x.mark(1), true);
+    }
+
+    /** What one instruction left must not reach the next. */
+    private static void oneBehindAnother() {
+        PlainSteps x = ready();
+        Checks.define(x, 1, 1, row(0, 32, 32, 1), row(15, 34, 32, 0));
+        Checks.define(x, 2, 1, row(0, 33, 33, 2), row(17, 35, 0, 0), row(0, 33, 33, 3));
+        Checks.define(x, 3, 1, row(22, 0, 0, 0));
+        interrupted(x);
+        Checks.words(x, 64, 0x300);
+        Checks.words(x, 200, 0x100, 0x200, 0x100, 0x200);
+        x.step(2);
+        Checks.due("no jump again", x.get(0), 202);
+        x.set(1, 99);
+        x.memory(400, 98);
+        x.step(1);
+        Checks.due("nothing is written again", x.get(1), 99);
+        Checks.due("no byte either", x.byteAt(400), 98);
+        x.step(1);
+        Checks.due("17 ends its own instruction alone", x.get(1), 1);
+        Checks.due("not the next", x.byteAt(400), 1);
+    }
+
+    private static void restoringBytes() {
+        PlainSteps x = ready();
+        Checks.define(x, 1, 2, row(15, 34, 32, 0), row(0, 33, 33, 1), row(18, 35, 35, 0));
+        Checks.define(x, 2, 2, row(15, 34, 33, 0), row(18, 35, 32, 0));
+        x.memory(400, 200);
+        x.memory(401, 201);
+        Checks.words(x, 200, 0x100, 0x200);
+        x.step(1);
+        Checks.due("written", x.byteAt(400), 1);
+        x.set(1, 60);
+        x.step(1);
+        Checks.due("the byte is as before", x.byteAt(400), 1);
+        Checks.due("the next byte, too", x.byteAt(401), 201);
+        Checks.due("what another instruction did stays", x.get(1), 60);
     }
 
     private static int[][] muchThenFault() {
