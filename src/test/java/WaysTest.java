@@ -10,6 +10,7 @@ public final class WaysTest {
         parallelLevel();
         parallelBackClearsTheMark();
         oneBehindAnother();
+        mostTransfers();
         restoringBytes();
         restoringAll();
         restoringWithoutFault();
@@ -183,6 +184,21 @@ public final class WaysTest {
         x.step(1);
         Checks.due("17 ends its own instruction alone", x.get(1), 1);
         Checks.due("not the next", x.byteAt(400), 1);
+    }
+
+    private static void mostTransfers() {
+        for (int how = 0; how < 8; how++) {
+            PlainSteps x = ready();
+            for (int i = 0; i < 199; i++) {
+                x.transfer(1, 1, 32, 1);
+            }
+            x.transfer(16, 34, 33, 0);
+            x.instruction(0, 0, how);
+            x.step(1);
+            Checks.due("200 transfers in one, " + how, x.get(1), how % 2 == 1 ? 11 : 209);
+            Checks.due("the last one, too, " + how, x.byteAt(400), 5);
+            Checks.due("all done, " + how, x.counter(8), 200);
+        }
     }
 
     private static void restoringBytes() {
