@@ -164,7 +164,7 @@ public final class StepsTest {
             Checks.due("and done, " + how, x.get(0), 36);
             Checks.due("and kept, " + how, x.counter(7), 1);
             PlainSteps y = new PlainSteps();
-            fill(y);
+            Checks.keep(y, 8);
             y.constant(1);
             Checks.define(y, 1, how, Checks.row(21, 0, 0, 0), Checks.row(18, 32, 32, 0));
             Checks.words(y, 100, 0x100);
@@ -174,18 +174,10 @@ public final class StepsTest {
         }
     }
 
-    /** Faults until 8 places are kept, or the machine has halted. */
-    private static void fill(PlainSteps x) {
-        while (x.halted() == 0 && x.counter(7) < 8) {
-            x.set(0, 1);
-            x.step(1);
-        }
-    }
-
     private static void keptFull() {
         PlainSteps x = new PlainSteps();
         x.register(8);
-        fill(x);
+        Checks.keep(x, 8);
         Checks.due("eight are kept", x.counter(7), 8);
         Checks.due("it runs", x.halted(), 0);
         x.constant(7);
@@ -209,7 +201,7 @@ public final class StepsTest {
     private static void keptFullMarks() {
         for (int how = 0; how < 8; how++) {
             PlainSteps x = new PlainSteps();
-            fill(x);
+            Checks.keep(x, 8);
             x.constant(1);
             Checks.define(x, 1, how, Checks.row(19, 0, 0, 0), Checks.row(18, 32, 32, 0));
             Checks.words(x, 100, 0x100);

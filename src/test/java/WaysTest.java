@@ -28,19 +28,8 @@ public final class WaysTest {
         Checks.finish();
     }
 
-    /** Registers 1 to 3 of 16 bits with 10, 20, 30; constants 32 to 35 are 1, 5, 400, 0. */
     private static PlainSteps ready() {
-        PlainSteps x = new PlainSteps();
-        for (int i = 1; i <= 3; i++) {
-            x.register(16);
-            x.set(i, 10 * i);
-        }
-        x.constant(1);
-        x.constant(5);
-        x.constant(400);
-        x.constant(0);
-        x.set(0, 200);
-        return x;
+        return Checks.ready();
     }
 
     private static int[] row(int op, int a, int b, int to) {
@@ -101,18 +90,10 @@ public final class WaysTest {
         Checks.due("17 at once", x.counter(8), 3);
     }
 
-    /** Takes an interrupt, so that 200 and level 0 are kept and the place is 64 with level 6. */
-    private static void interrupted(PlainSteps x) {
-        x.enable(0, 6);
-        x.line(0, true);
-        x.step(1);
-        x.line(0, false);
-    }
-
     private static void parallelBack() {
         PlainSteps x = ready();
         Checks.define(x, 1, 1, row(22, 0, 0, 0), row(0, 0, 0, 1), row(0, 32, 32, 2));
-        interrupted(x);
+        Checks.interrupted(x);
         Checks.words(x, 64, 0x100);
         x.step(1);
         Checks.due("back", x.get(0), 200);
@@ -125,7 +106,7 @@ public final class WaysTest {
     private static void parallelBackAndWrites() {
         PlainSteps x = ready();
         Checks.define(x, 1, 1, row(0, 34, 34, 0), row(19, 0, 0, 0), row(22, 0, 0, 0));
-        interrupted(x);
+        Checks.interrupted(x);
         Checks.words(x, 64, 0x100);
         x.step(1);
         Checks.due("what is written comes behind 22", x.get(0), 400);
@@ -133,7 +114,7 @@ public final class WaysTest {
         Checks.due("the level is so", x.counter(6), 0);
         PlainSteps y = ready();
         Checks.define(y, 1, 0, row(0, 34, 34, 0), row(19, 0, 0, 0), row(22, 0, 0, 0));
-        interrupted(y);
+        Checks.interrupted(y);
         Checks.words(y, 64, 0x100);
         y.step(1);
         Checks.due("in order when not parallel", y.get(0), 200);
@@ -143,7 +124,7 @@ public final class WaysTest {
     private static void parallelLevel() {
         PlainSteps x = ready();
         Checks.define(x, 1, 1, row(20, 0, 0, 0), row(22, 0, 0, 0), row(20, 0, 0, 0));
-        interrupted(x);
+        Checks.interrupted(x);
         Checks.words(x, 64, 0x100);
         x.step(1);
         Checks.due("22 is at once, so the level is 0", x.fault(0), 5);
@@ -156,7 +137,7 @@ public final class WaysTest {
         PlainSteps x = ready();
         Checks.define(x, 1, 0, row(19, 0, 0, 0));
         Checks.define(x, 2, 1, row(22, 0, 0, 0), row(0, 0, 0, 1));
-        interrupted(x);
+        Checks.interrupted(x);
         Checks.words(x, 64, 0x100, 0x200);
         x.step(1);
         Checks.due("marked", x.mark(0), true);
@@ -171,7 +152,7 @@ public final class WaysTest {
         Checks.define(x, 1, 1, row(0, 32, 32, 1), row(15, 34, 32, 0));
         Checks.define(x, 2, 1, row(0, 33, 33, 2), row(17, 35, 0, 0), row(0, 33, 33, 3));
         Checks.define(x, 3, 1, row(22, 0, 0, 0));
-        interrupted(x);
+        Checks.interrupted(x);
         Checks.words(x, 64, 0x300);
         Checks.words(x, 200, 0x100, 0x200, 0x100, 0x200);
         x.step(2);
@@ -232,7 +213,7 @@ public final class WaysTest {
             x.register(8);
             Checks.define(x, 1, how, muchThenFault());
             Checks.define(x, 2, 0, row(22, 0, 0, 0));
-            interrupted(x);
+            Checks.interrupted(x);
             Checks.words(x, 64, 0x100);
             Checks.words(x, 400, 0x4321);
             Checks.words(x, 32, 0x200);
@@ -273,7 +254,7 @@ public final class WaysTest {
     private static void restoringNot() {
         PlainSteps x = ready();
         Checks.define(x, 1, 0, muchThenFault());
-        interrupted(x);
+        Checks.interrupted(x);
         Checks.words(x, 64, 0x100);
         x.step(1);
         Checks.due("register 1 stays", x.get(1), 5);
@@ -414,7 +395,7 @@ public final class WaysTest {
             PlainSteps x = ready();
             Checks.define(x, 1, how, row(22, 0, 0, 0), row(0, 0, 0, 1));
             Checks.define(x, 2, 0);
-            interrupted(x);
+            Checks.interrupted(x);
             Checks.words(x, 64, 0x100, 0x200);
             x.step(1);
             Checks.due("behind it", x.get(0), 66);
@@ -426,7 +407,7 @@ public final class WaysTest {
         PlainSteps x = ready();
         Checks.define(x, 1, 4, row(0, 34, 34, 0));
         Checks.define(x, 2, 0, row(22, 0, 0, 0));
-        interrupted(x);
+        Checks.interrupted(x);
         Checks.words(x, 64, 0x100, 0x200);
         x.step(2);
         Checks.due("22 counts as written: the delayed one is lost", x.get(0), 200);
