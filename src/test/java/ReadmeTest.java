@@ -19,8 +19,8 @@ public final class ReadmeTest {
         Checks.due("field", low, 64);
         X.transfer(1, r, low, r);
         X.instruction(0xff00, 0x0100, 0);
-        X.memory(257, 1);
         X.memory(256, 7);
+        X.memory(257, 1);
         X.set(r, 5);
         X.set(0, 256);
         Checks.due("step", X.step(1), 1);
